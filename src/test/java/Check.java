@@ -90,4 +90,23 @@ final class Check {
         }
         return text.toString();
     }
+
+    /** All that can be seen of an object without changing it. */
+    static String state(RateShapes x) {
+        StringBuilder state = new StringBuilder();
+        for (int what = 0; what < 4; what++) {
+            state.append(x.count(what)).append(' ');
+        }
+        for (int i = 0; i < x.count(1); i++) {
+            int index = i;
+            state.append(node(x, i)).append(' ').append(outcome(() -> x.part(index)));
+        }
+        for (int i = 0; i < x.count(2); i++) {
+            state.append((char) x.at(i));
+        }
+        for (int i = 0; i < 8; i++) {
+            state.append(' ').append(x.missing(i));
+        }
+        return state.toString();
+    }
 }

@@ -91,32 +91,13 @@ public final class WildTest {
     }
 
     private static void only(RateShapes x, String allowed, LongSupplier call) {
-        String before = state(x);
+        String before = Check.state(x);
         String answer = Check.outcome(call);
         if (answer.endsWith("Exception")) {
             String name = answer.substring(0, answer.length() - "Exception".length());
             CHECK.due(answer + " is one of " + allowed, (" " + allowed + " ").contains(" " + name + " "),
                     true);
-            CHECK.due("what throws changes nothing", state(x), before);
+            CHECK.due("what throws changes nothing", Check.state(x), before);
         }
-    }
-
-    /** All that can be seen of an object without changing it. */
-    private static String state(RateShapes x) {
-        StringBuilder state = new StringBuilder();
-        for (int what = 0; what < 4; what++) {
-            state.append(x.count(what)).append(' ');
-        }
-        for (int i = 0; i < x.count(1); i++) {
-            int node = i;
-            state.append(Check.node(x, i)).append(' ').append(Check.outcome(() -> x.part(node)));
-        }
-        for (int i = 0; i < x.count(2); i++) {
-            state.append((char) x.at(i));
-        }
-        for (int i = 0; i < 8; i++) {
-            state.append(' ').append(x.missing(i));
-        }
-        return state.toString();
     }
 }
