@@ -475,6 +475,11 @@ public final class PromiseBoundsTest {
         missing(x);
         x.amount(3, NONE);
         missing(x, 3);
+        Check.read(x, "1/E + 1%");
+        missing(x, 4);
+        // One node more would be the tree's before.
+        Check.read(x, "1%");
+        missing(x);
         Check.read(x, "1/E");
         missing(x, 4);
         Check.read(x, "1%");
